@@ -748,16 +748,13 @@ public final class PromiseTests {
 
     /** A chain of records of 8 leaves each, with rows behind: of 32 two rows are still to come at 250 leaves. */
     private static void writeMoreParts() {
-        RecordLeaves x = new RecordLeaves();
-        x.part(3, 0, 0, RECORD, 3);
-        x.part(3, 0, 1, ROW, 0);
-        x.give(1, 0, 9);
+        RecordLeaves x = withChainsOfEight();
         for (int depth = 1; depth <= 50; depth++) {
             x.make(3, 0, 0);
             due(depth + " records of 8", x.write(0), depth <= 31 ? 8 * depth : FULL);
         }
         for (int n = 0; n <= 8; n++) {
-            x.row(0, NONE);
+            x = withChainsOfEight();
             x.row(9, n);
             for (int depth = 1; depth <= 31; depth++) {
                 x.make(3, 0, 0);
@@ -765,6 +762,14 @@ public final class PromiseTests {
             }
             due("innermost " + n, x.write(0), n <= 2 ? 248 + n : FULL);
         }
+    }
+
+    private static RecordLeaves withChainsOfEight() {
+        RecordLeaves x = new RecordLeaves();
+        x.part(3, 0, 0, RECORD, 3);
+        x.part(3, 0, 1, ROW, 0);
+        x.give(1, 0, 9);
+        return x;
     }
 
     private static void writeDeep() {
