@@ -268,7 +268,6 @@ public final class BoundaryTests {
     private static void sorts() {
         int[] of = {7, 7, 1, 5, 7};
         edges("part, the sort", RecordLeaves::new, (x, i) -> x.part(2, 0, 0, i, i >= 0 && i < 5 ? of[i] : 2), 0, 4, i -> 0);
-        edges("part, the sort", RecordLeaves::new, (x, i) -> x.part(2, 0, 0, i == CONSTANT ? INT : i, 2), 0, 4, i -> 0);
     }
 
     private static void ofNotLookedAt() {
@@ -322,12 +321,13 @@ public final class BoundaryTests {
 
     private static void hows() {
         int[] a = {0, 0, 4, 3, 2};
-        edges("check, how", BoundaryTests::everySort, (x, i) -> x.check(2, 0, i, i >= 0 && i < 5 ? a[i] : 0, 0), 0, 4, i -> 0);
+        Supplier<RecordLeaves> start = BoundaryTests::everySort;
+        edges("check, how", start, (x, i) -> x.check(2, 0, i, i >= 0 && i < 5 ? a[i] : 0, 0), 0, 4, i -> 0);
         for (int how = 0; how < 5; how++) {
             int h = how;
-            edges("check, how " + how + ", a", BoundaryTests::everySort, (x, i) -> x.check(2, 0, h, i, 0), a[how], a[how], i -> 0);
+            edges("check, a of how " + h, start, (x, i) -> x.check(2, 0, h, i, 0), a[h], a[h], i -> 0);
             if (how != 1) {
-                edges("check, how " + how + ", b", BoundaryTests::everySort, (x, i) -> x.check(2, 0, h, a[h], i), 0, 0, i -> 0);
+                edges("check, b of how " + h, start, (x, i) -> x.check(2, 0, h, a[h], i), 0, 0, i -> 0);
             }
         }
     }
@@ -571,6 +571,19 @@ public final class BoundaryTests {
         due("NOTHING", x.row(4, NONE), 1);
         due("NOTHING", x.about(4, 0), 0);
         due("NOTHING where it was", x.row(4, NONE), 1);
+    }
+
+    private static void newRows() {
+        for (int n = 1; n <= 8; n++) {
+            RecordLeaves x = new RecordLeaves();
+            x.row(4, n);
+            x.item(4, n - 1, 6);
+            x.share(5, 4);
+            x.row(4, n);
+            due("the new one's last item", x.item(4, n - 1, 7), 0);
+            due("the other one's last item", x.item(5, n - 1, 8), 6);
+            due("the new one's last item", x.item(4, n - 1, 0), 7);
+        }
     }
 
     private static void itemsOfRows() {
@@ -1533,6 +1546,19 @@ public final class BoundaryTests {
         due("no number", x.status(), BAD);
         x.number(4, 2);
         due("a family, less 10", x.status(), 0);
+        statusBetween(x, 0);
+        x.number(0, 0);
+        statusBetween(x, BAD);
+    }
+
+    /** Calls that are neither number() nor leaf(), fine ones and refused ones. */
+    private static void statusBetween(RecordLeaves x, int want) {
+        long[] answers = {x.about(4, 0), x.about(4, 4), x.like(4, 4), x.like(4, 10), x.make(2, 0, 4), x.make(2, 3, 4),
+            x.write(4), x.write(0), x.read(0, 5), x.read(0, 10), x.cause(0), x.cause(3), x.count(0), x.count(5),
+            x.set(0, 2), x.set(-1, 2), x.cut(2), x.cut(-1), x.row(6, 1), x.row(6, 9), x.item(6, 0, 1), x.item(6, 1, 1),
+            x.share(7, 6), x.share(7, 10), x.give(0, 0, 0), x.give(5, 0, 0), x.hold(8, 0, 0, 9), x.hold(8, 0, 0, 8),
+            x.take(4, 2, 8), x.take(4, 0, 8), x.constant(0, 0, 9, true), x.part(2, 0, 5, INT, 0), x.check(2, 0, 5, 0, 0)};
+        due("status() behind " + answers.length + " other calls", x.status(), want);
     }
 
     private static void counts() {
@@ -1586,6 +1612,7 @@ public final class BoundaryTests {
         all.put("or NOTHING (at first)", BoundaryTests::nothingAtFirst);
         all.put("several perhaps the same", BoundaryTests::severalTheSame);
         all.put("a ROW (0 to 8 ints), or NOTHING (n = NONE)", BoundaryTests::rowSizes);
+        all.put("a new ROW of n ITEMS, all 0", BoundaryTests::newRows);
         all.put("no such ITEM (BAD may be an ITEM, too)", BoundaryTests::itemsOfRows);
         all.put("BAD: also no ROW", BoundaryTests::itemsOfOthers);
         all.put("with as many PARTS as that had when it was made", BoundaryTests::partsWhenMade);
