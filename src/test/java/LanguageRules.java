@@ -128,7 +128,7 @@ public final class LanguageRules {
     public static void main(String[] args) throws Exception {
         face();
         inside();
-        text(Files.readString(Path.of(System.getProperty("source", "src/main/java/RecordLeaves.java"))));
+        text(Files.readString(Path.of(System.getProperty("root", "."), "src/main/java/RecordLeaves.java")));
         System.out.println(wrong == 0 ? "the face and the rules are kept" : wrong + " rules are broken");
         if (wrong != 0) {
             System.exit(1);
